@@ -1110,7 +1110,6 @@ public final class GreedyServers {
                 deadline = tick + period;
             }
             state = READY;
-            holding = false;
             firstDeadline = deadline;
         }
 

@@ -181,6 +181,7 @@ public final class PromiseTests {
         due(3, "no such", x.server(MIN, 0), -1);
         due(3, "what", x.server(0, 12), -1);
         due(3, "what", x.server(0, -1), -1);
+        due(3, "SHARE of PERIOD 1", with(HARD, 0, 1, 1).server(0, 4), 60);
         payments();
     }
 
@@ -361,6 +362,14 @@ public final class PromiseTests {
     }
 
     private static void refills() {
+        // LOAD 59: GREEDY 0 with LEFT 60 has 1 left, which is not 0 or less.
+        GreedyServers y = said("s100160;s003060;s002860;j023;j113;j213;t01;");
+        due(8, "LEFT 1", y.server(0, 5), 10001);
+        due(8, "no REFILL", y.server(0, 6), 60);
+        y.ticks(1);
+        due(8, "LINGERING with LEFT -58", y.server(0, 5), 10000 - 58);
+        y = said("s100160;s003060;s002860;j013;j113;j213;t01;j013;");
+        due(6, "LEFT 1 stays", y.server(0, 5), 10001);
         GreedyServers x = said("s000205;j093;t02;");
         due(8, "HARD has more", x.server(0, 5), 10120);
         due(8, "HARD's DEADLINE", x.server(0, 6), 10);
@@ -543,6 +552,10 @@ public final class PromiseTests {
         due(11, "WORK 9 by refills", x.quiet(0), 9);
         x = said("s200130;j043;t01;");
         due(11, "the last at 90", x.quiet(0), 90);
+        x = said("s200120;j063;t01;");
+        due(11, "the last in TICK 100, behind 100", x.quiet(0), -4);
+        x.ticks(1);
+        due(11, "behind 99", x.quiet(0), 99);
     }
 
     private static void misses() {
@@ -565,6 +578,26 @@ public final class PromiseTests {
         x = said("s200160;j033;t50;t48;");
         // RESTING till TICK 120 with one to go, LATE there; TICK 98 now: behind 23.
         due(12, "far", x.misses(0), 23);
+        x = said("s200160;j023;");
+        due(12, "in TICK 60", x.misses(0), 61);
+        due(12, "who is", x.misses(-1), 0);
+        x.then(0, 99, 0);
+        due(12, "begins anew with each call", x.misses(0), 61);
+        x.then(0, 99, 0);
+        due(12, "begins anew with each call", x.misses(-1), 0);
+        missesFar();
+    }
+
+    private static void missesFar() {
+        // 0's second JOB has FIRST DEADLINE 60, its SERVER DEADLINE 120; three others keep ahead of it.
+        GreedyServers x = said("s000160;s000101;s000101;s000101;j013;j013;t01;");
+        for (int i = 0; i < 11; i++) {
+            x.sends(1 + i % 3, i < 10 ? 9 : 8, NO_LOCK);
+        }
+        due(12, "98 TICKS of WORK ahead", x.then(1, 0, 0) + x.then(2, 0, 0) + x.then(3, 0, 0), 98);
+        due(12, "behind 99", x.misses(0), 99);
+        x.sends(3, 1, NO_LOCK);
+        due(12, "behind 100", x.misses(0), -4);
     }
 
     private static void ran() {
@@ -615,6 +648,13 @@ public final class PromiseTests {
         due(15, "not in 10", x.demand(10, 1), 0);
         due(15, "11 alone would", x.demand(11, 0), 11);
         due(15, "but not all of 1 .. 11", x.demand(11, 1), 0);
+        x = said("s000101;");
+        due(15, "1 in 1", x.demand(1, 0), 1);
+        due(15, "just fits", x.demand(1, 1), 1);
+        due(15, "99 in 99", x.demand(99, 1), 1);
+        add(x, GREEDY, 0, 1, 1);
+        due(15, "2 in 1", x.demand(1, 0), 2);
+        due(15, "does not", x.demand(1, 1), 0);
     }
 
     private static void needs() {
@@ -646,6 +686,13 @@ public final class PromiseTests {
         x = said("s000106;s000912;j053;j193;");
         due(16, "as much as it takes", x.needs(0, 60), 4);
         due(16, "within 6 it is never LATE", x.needs(0, 6), 1);
+        // PERIOD 2, JOBS of WORK 2 and 1 (FIRST DEADLINES 2 and 4), a rival with WORK 2 by 5: with BUDGET 1 the
+        // rival runs in TICKS 2, 3; with 2 the second JOB is ahead of it.
+        x = said("s000102;s000505;j023;j013;j123;");
+        due(16, "BUDGET as PERIOD", x.needs(0, 10), 2);
+        // The second JOB of WORK 2: BUDGET 3 would do, but is above PERIOD.
+        x = said("s000102;s000505;j023;j023;j123;");
+        due(16, "not above PERIOD", x.needs(0, 10), -4);
     }
 
     private static void alone() {
@@ -806,6 +853,18 @@ public final class PromiseTests {
         due(22, "no room", x.two(0, 1, 60), -2);
         due(22, "no room", x.two(1, 0, 60), -2);
         due(22, "-1 ahead of no room", x.two(0, 1, 61), -1);
+        x = said("s000530;s000202;");
+        due(22, "the other is LATE by 3, and has 1", x.two(0, 1, 60), 11);
+        due(22, "in 1 TICK", x.two(0, 1, 1), 11);
+        // 0 is LATE by 2 in any case, and by 3 more with another JOB: 4 less 5 is more than less 2.
+        // 1's other JOB would be LATE by 5: 4 less 5 is below 0.
+        x = said("s000404;s000101;j053;j113;");
+        due(22, "LATE in any case", x.then(0, 60, 4), 2);
+        due(22, "the one", x.two(0, 1, 60), 10);
+        // 1's JOB would be LATE by 4, it has as much either way: (0, 1) is ahead of (1, 0), and by it 0 has less
+        // for sending (LATE by 11 in place of 6).
+        x = said("s000303;s000101;j073;");
+        due(22, "the first pair", x.two(0, 1, 60), 1);
     }
 
     private static void breaks() {
@@ -951,6 +1010,7 @@ public final class PromiseTests {
         x = said("s003060;");
         int z = 77;
         int done = 0;
+        int doneOnFirst = 0;
         for (int day = 0; day < 3; day++) {
             int backlog = 0;
             int[] ends = new int[6];
@@ -972,8 +1032,14 @@ public final class PromiseTests {
             for (int k = 0; k < jobs; k++) {
                 done += ends[k] <= 30 ? 1 : 0;
             }
+            doneOnFirst = day == 0 ? done : doneOnFirst;
         }
+        due(29, "DONE in a day", x.days(1, 77, 1), doneOnFirst);
         due(29, "DONE", x.days(3, 77, 1), done);
+        say(x, "j013;t60;");
+        due(29, "DONE now is not more", x.server(0, 10), 1);
+        due(29, "DONE more", x.days(3, 77, 1), done);
+        x = said("s003060;");
         due(29, "LATE", x.days(3, 77, 0), 0);
         due(29, "TICK is as it was", x.count(1), 0);
         x = said("s000101;j093;t02;");
@@ -1019,7 +1085,7 @@ public final class PromiseTests {
     private static void anewBehindRestore() {
         GreedyServers x = new GreedyServers();
         x.image();
-        say(x, "s000102;j091;j013;t05;");
+        say(x, "s000102;j011;j091;j013;t05;");
         x.restore();
         add(x, HARD, 0, 3, 30);
         int[] first = {HARD, 0, 3, 30, 6, 10000, 0, 0, 0, 0, 0, 60};
@@ -1042,6 +1108,7 @@ public final class PromiseTests {
         x = said("s000101;j092;t03;");
         due(32, "LATE of all", x.count(5), 2);
         due(32, "LOCK 2", x.count(8), 0);
+        due(32, "READY", x.count(3), 1);
     }
 
     private static void tray() {
@@ -1168,6 +1235,8 @@ public final class PromiseTests {
         due(38, "nothing yet", x.put(0, 0, 0), -11);
         due(38, "n 100", x.row(0, 2, 100), 0);
         due(38, "0 at first", x.element(0, 99), 0);
+        x.put(0, 99, 5);
+        due(38, "the last", x.element(0, 99), 5);
         due(38, "no more", thrown(x, 0, 100), 2);
         x.put(0, 3, 5);
         due(38, "anew", x.row(0, 2, 4), 0);
@@ -1227,6 +1296,9 @@ public final class PromiseTests {
         due(41, "a SORT", x.copy(0, 0, 2, 0, 0), -12);
         due(41, "a SORT", x.copy(2, 0, 0, 0, 0), -12);
         due(41, "two SORTS", x.copy(2, 0, 2, 0, 0), -12);
+        x.row(3, 0, 2);
+        due(41, "a SORT and bytes", x.copy(2, 0, 3, 0, 0), -12);
+        due(41, "bytes and a SORT", x.copy(3, 0, 2, 0, 0), -12);
         x.row(1, 0, 9);
         due(41, "another kind", x.copy(0, 9, 1, 0, 0), -12);
         x.row(1, 1, 3);
