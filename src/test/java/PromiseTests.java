@@ -820,15 +820,34 @@ public final class PromiseTests {
     }
 
     private static void figures() {
-        // SLACK of SHARE 12 and LOAD 30: pays 30 less FIGURE. LEFT 60: with FIGURE 0 it is used up behind
-        // two TICKS, with any other (29 ..) not; then DEADLINE 10 is behind 1's 6 in any case? 1 comes at 6.
+        // SLACK of SHARE 12 with LEFT 60 and LOAD 30 pays 30 less FIGURE: with 0 its 60 are used up behind two TICKS
+        // and 60 more behind four, DEADLINE 15 then; with more FIGURE it takes longer. 1 has DEADLINE 10.
         GreedyServers x = said("s390105;s000310;j093;j113;");
         due(21, "LOAD", x.count(2), 30);
-        // 0 runs TICKS 0, 1; FIGURE 0: DEADLINE 10 is a tie with 1's 10: 0 again, till 60 more are used up.
         tell(x, 1, 0, 0, 0, 0, 0, 1);
         due(21, "FIGURE 0 alone", x.whoRan(1, 0, 1), 1);
+        // 5 TICKS, 1 in the sixth: 60 used up behind 3 (20 .. 29 a TICK), 60 more behind 5: 24 or more a TICK,
+        // and below 30: FIGURES 1 .. 6. Less than that lasts for a sixth TICK.
         tell(x, 1, 0, 0, 0, 0, 0, 0, 1);
-        due(21, "FIGURES 1 .. 9 otherwise", x.whoRan(1, 0, 1) & 1, 0);
+        due(21, "FIGURES 1 .. 6", x.whoRan(1, 0, 1), 0x7e);
+    }
+
+    /**
+     * A SLACK one with LEFT 134 at TICK 2 as RESTER or STRICT: it RESTS with -46 till TICK 10, has 240 or 194 then,
+     * ends its JOB in that TICK and LINGERS with 180 till TICK 13, with 134 till TICK 15. So in TICKS 13 and 14
+     * LOAD is 36 or 60, which GREEDY 1 pays from its 120: the STRICT one lets it come to 0, and 2 runs in TICK 15.
+     */
+    private static void resterOrStrict() {
+        GreedyServers x = said("s370410;s100620;s100310;j063;j293;j183;t02;");
+        due(21, "LEFT", x.server(0, 5), 10134);
+        x.row(1, 0, 14);
+        for (int i = 0; i < 13; i++) {
+            x.put(1, i, -128);
+        }
+        x.put(1, 13, 1);
+        due(21, "a RESTER, no STRICT one", x.whoRan(1, 0, 0) & (1 << RESTER | 1 << STRICT), 1 << RESTER);
+        x.put(1, 13, 2);
+        due(21, "a STRICT one, no RESTER", x.whoRan(1, 0, 0) & (1 << RESTER | 1 << STRICT), 1 << STRICT);
     }
 
     private static void two() {
@@ -1372,6 +1391,7 @@ public final class PromiseTests {
         send();
         load();
         whoRan();
+        resterOrStrict();
         two();
         breaks();
         share();
