@@ -1384,8 +1384,14 @@ public final class GreedyServers {
             switch (script.at(place)) {
                 case 's': return isServerAdded(script, place, plant, kinds);
                 case 'j': return isJobSent(script, place, plant);
-                default: return isGoneOn(script, place, plant);
+                default: break;
             }
+            int n = twoDigits(script, place + 1);
+            if (plant.tickingRefusal(n) != NOT_REFUSED) {
+                return false;
+            }
+            plant.goOnFor(n);
+            return true;
         }
 
         private static boolean isServerAdded(Shelf script, int place, Plant plant, Hard[] kinds) {
@@ -1409,15 +1415,6 @@ public final class GreedyServers {
                 return false;
             }
             plant.servers[s].takeJob(work, lock, plant.tick);
-            return true;
-        }
-
-        private static boolean isGoneOn(Shelf script, int place, Plant plant) {
-            int n = twoDigits(script, place + 1);
-            if (plant.tickingRefusal(n) != NOT_REFUSED) {
-                return false;
-            }
-            plant.goOnFor(n);
             return true;
         }
     }
