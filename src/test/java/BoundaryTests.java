@@ -214,6 +214,13 @@ public final class BoundaryTests {
         due("six", x.count(0), 6);
         due("the last", x.server(5, 0), STRICT);
         due("behind the last", x.server(6, 0), -1);
+        due("LOAD of six", x.count(2), 0);
+        due("FIRST of six", x.misses(-1), -4);
+        due("FREE of six", x.quiet(1), 0);
+        due("DEMAND of six", x.demand(60, 0), 6);
+        due("FITS of six", x.demand(60, 1), 1);
+        due("SEND of six", x.send(60), -4);
+        due("ALONE of six", x.alone(5, 60), 0);
 
         told("with a FIGURE (0 .. 9)");
         due("least", with(SLACK, 0, 1, 60).server(0, 1), 0);
@@ -639,6 +646,11 @@ public final class BoundaryTests {
         x = said("s000202;j033;");
         due("TICK 1 is below 2", x.ticks(2), 0);
         due("TICK 2 is not", x.ticks(1), 1);
+        // 0's JOB runs in all TICKS, in 1 .. 3 and 5 on 1's budget; it is LATE in TICKS 4 and 5.
+        x = said("s200104;s000560;j091;j191;t06;");
+        due("chosen in TICK 5", x.server(1, 5), 10060);
+        due("of the JOB's SERVER", x.server(0, 9), 2);
+        due("not of the chosen one", x.server(1, 9), 0);
     }
 
     private static void tickEnds() {
@@ -892,6 +904,11 @@ public final class BoundaryTests {
             refused(x, "n " + n, () -> x.ran(0, n, 0), -1);
             refused(x, "n " + n, () -> x.ran(0, n, 1), -1);
         }
+        GreedyServers y = said("s200110;s000530;j031;j191;");
+        due("its JOB, on another's budget, too", y.ran(0, 99, 0), 3);
+        due("it alone is chosen", y.ran(0, 99, 1), 1);
+        due("its own JOB", y.ran(1, 99, 0), 9);
+        due("chosen, for another's JOB, too", y.ran(1, 99, 1), 11);
     }
 
     private static void quietAndFree() {
@@ -984,6 +1001,7 @@ public final class BoundaryTests {
         due("of none", new GreedyServers().demand(99, 0), 0);
         due("none FITS", new GreedyServers().demand(99, 1), 1);
         due("just n of all n", said("s000101;").demand(99, 1), 1);
+        due("2 in 1", said("s000101;s000101;").demand(1, 1), 0);
         GreedyServers z = said("s000101;s000160;");
         due("59 in 59", z.demand(59, 1), 1);
         due("61 in 60", z.demand(60, 1), 0);
@@ -1013,7 +1031,10 @@ public final class BoundaryTests {
         due("its BUDGET stays", x.server(1, 2), 1);
         due("the least", said("s003060;j093;").needs(0, 60), 1);
         due("of one without JOBS", said("s003060;").needs(0, 60), 1);
-        due("LATE with 1, and 2 is above PERIOD", said("s000101;j093;").needs(0, 60), -4);
+        // JOBS of WORK 2 and 1 by 2 and 4, and a rival with WORK 2 by 5: with BUDGET 1 it has TICKS 2 and 3. With WORK
+        // 2 and 2 it would take BUDGET 3 to be ahead of it in TICK 3, too.
+        due("as much as PERIOD", said("s000102;s000505;j023;j013;j123;").needs(0, 10), 2);
+        due("not above PERIOD", said("s000102;s000505;j023;j023;j123;").needs(0, 10), -4);
         // A RESTER with 60 LEFT RESTS behind one TICK with any BUDGET, and is LATE in TICK 10.
         GreedyServers y = said("s200110;j043;");
         due("10 TICKS", y.needs(0, 10), 1);
@@ -1039,6 +1060,9 @@ public final class BoundaryTests {
         due("LATE with the others", y.then(2, 60, 4), 1);
         due("not without them", y.alone(2, 60), 0);
         due("LATE now is no more", said("s000101;j093;t09;").alone(0, 60), 0);
+        // 0 has TICKS 0 and 1 (DEADLINES 1, 2, the least number), so 1's JOB runs in TICK 2, its FIRST DEADLINE.
+        due("LATE with the least one", said("s000101;s000102;j093;j113;").then(1, 60, 4), 1);
+        due("not without the least one", said("s000101;s000102;j093;j113;").alone(1, 60), 0);
         for (int n : new int[] {61, -1, MIN, MAX}) {
             refused(x, "n " + n, () -> x.alone(0, n), -1);
         }
@@ -1069,6 +1093,8 @@ public final class BoundaryTests {
         due("0 or 1, the least", x.send(60), 0);
         due("59 TICKS: nobody is LATE", x.send(59), -4);
         due("0 TICKS", x.send(0), -4);
+        // 0 has WORK 4 by 6, behind 2 and 3 of the others: LATE by 3. Without 1's JOB by 1, without 2's in time.
+        due("the least, not the first", said("s000406;s000505;s000505;j043;j123;j233;").send(60), 2);
         due("without SERVERS", new GreedyServers().send(60), -4);
         due("LATE by itself: no others", said("s000101;j093;").send(60), -4);
         due("LATE whoever goes", said("s000101;s000160;j093;").send(60), -4);
@@ -1131,7 +1157,14 @@ public final class BoundaryTests {
         due("the bytes' least is not that of shorts", x.whoRan(1, 0, 0), 0);
         tell(x, 1, 2, -32768);
         due("the shorts' least is not that of ints", x.whoRan(1, 0, 0), 0);
-        // HARD thought to be a RESTER: 61 LEFT less 60 is 1, which is not 0 or less; 60 LEFT less 60 is.
+        // SLACK 0 of SHARE 12 pays 30 less FIGURE of 60; 1 (20) runs as 0 has DEADLINE 25: with FIGURE 0 behind 8 TICKS
+        // (a REFILL every 2), with FIGURE 9 behind 12 (every 3), with 1 .. 8 behind 9 .. 11.
+        GreedyServers z = said("s350105;s000620;j093;j093;j193;");
+        tell(z, 1, 0, 0, 0, 0, 0, 0, 0, 0, 0, 1);
+        due("the least FIGURE", z.whoRan(1, 0, 1), 1);
+        tell(z, 1, 0, 0, 0, 0, 0, 0, 0, 0, 0, 0, 0, 0, 0, 1);
+        due("the greatest FIGURE", z.whoRan(1, 0, 1), 1 << 9);
+        // GREEDY thought to be a RESTER: 61 LEFT less 60 is 1, which is not 0 or less; 60 LEFT less 60 is.
         GreedyServers y = said("s100210;s003060;s001760;j093;j193;j213;t01;");
         due("LEFT 61", y.server(0, 5), 10061);
         tell(y, 1, 0, 0, 0, 1);
@@ -1158,6 +1191,9 @@ public final class BoundaryTests {
         // DEADLINE 13, 1 has TICKS 12 .. 16: 4 less 11 and 4 less 5. (1, 0): 4 less 13 and 0.
         due("none", said("s000101;s050512;j092;").two(0, 1, 17), -4);
         due("as much by both choices: the first", said("s000101;s000101;").two(0, 1, 60), 0);
+        // LATE of WORK 5 in TICKS 2, 3, 4: 4 less 3 is more than 0.
+        due("WORK 5 of the one", said("s000202;s003060;").two(0, 1, 60), 11);
+        due("WORK 5 of the other", said("s000202;s003060;").two(1, 0, 60), 11);
 
         told(22, "-1 (one twice), -2 (either has 4 JOBS).");
         GreedyServers y = said("s000160;s000160;j013;j013;j013;j113;j113;j113;");
@@ -1199,6 +1235,11 @@ public final class BoundaryTests {
         fraction("three of four, 1 in 2", said("s200103;j013;"), 4, 2, 1, 16);
         fraction("three of four, 1 in 20", said("s200103;j013;"), 4, 20, 19, 160000);
         fraction("three of three", said("s200103;j013;"), 3, 2, 0, 1);
+        // HARD 0 with WORK 2 by 3, ahead of 1 (4) while LEFT lasts: LATE if two or three of the first three break and
+        // the fourth is whole. If it paid in a TICK that breaks, it would have DEADLINE 6 sooner.
+        fraction("two of three, 1 in 2", said("s000203;s000404;j023;j193;"), 4, 2, 1, 4);
+        // 1 and 19 times 3 of 8000, and 19 of 20: 58 times 19 by 160000.
+        fraction("two of three, 1 in 20", said("s000203;s000404;j023;j193;"), 4, 20, 551, 80000);
         for (int n : new int[] {8, -1, MIN, MAX}) {
             refused(x, "n " + n, () -> x.breaks(0, n, 2, 0), REFUSED);
         }
@@ -1282,6 +1323,8 @@ public final class BoundaryTests {
         due("the last is not so", x.forged(1), 5);
         tell(x, 1, 0, 70, 69, 69, 69, 69, 68);
         due("the first is not so", x.forged(1), 0);
+        tell(x, 1, 0, -128, 69);
+        due("nothing is skipped", x.forged(1), 0);
         tell(x, 1, 0, 69, 69, 69, 69, 69, 69, 69);
         due("no such one", x.forged(1), 6);
         x.row(1, 2, 100);
